@@ -238,7 +238,11 @@ public final class PunchedFolds {
             return BAD_TEXT;
         }
         history.note(now);
-        int done = doWorks();
+        text.position = 0;
+        int done = 0;
+        while (done < MOST_CHARACTERS && text.readWork() && !isError(doWorkRead())) {
+            done++;
+        }
         text.length = 0;
         return keepUnlessError(done);
     }
@@ -279,15 +283,6 @@ public final class PunchedFolds {
         }
         trial.foldAnew(across, down);
         return trial.punchesFor(now.goal);
-    }
-
-    private int doWorks() {
-        text.position = 0;
-        int done = 0;
-        while (done < MOST_CHARACTERS && text.readWork() && !isError(doWorkRead())) {
-            done++;
-        }
-        return done;
     }
 
     private int doWorkRead() {
@@ -355,14 +350,21 @@ public final class PunchedFolds {
     private static final class Folding {
         final int[] kinds = new int[MOST_FOLDS];
         int made = 0;
+        int madeAcross = 0;
 
         void becomeLike(Folding other) {
             System.arraycopy(other.kinds, 0, kinds, 0, kinds.length);
             made = other.made;
+            madeAcross = other.madeAcross;
+        }
+
+        void takeAllBack() {
+            made = 0;
+            madeAcross = 0;
         }
 
         void foldAnew(int across, int down) {
-            made = 0;
+            takeAllBack();
             for (int i = 0; i < across; i++) {
                 addFold(1);
             }
@@ -375,15 +377,23 @@ public final class PunchedFolds {
             if (made >= 0 && made < kinds.length) {
                 kinds[made] = kind;
                 made++;
+                madeAcross += isAcross(kind) ? 1 : 0;
             }
         }
 
+        int takeLatestBack() {
+            int kind = kindOf(made - 1);
+            made--;
+            madeAcross -= isAcross(kind) ? 1 : 0;
+            return kind;
+        }
+
         boolean hasFold(int index) {
-            return index >= 0 && index < made && index < kinds.length;
+            return index >= 0 && index < made;
         }
 
         int kindOf(int index) {
-            return hasFold(index) ? kinds[index] : 0;
+            return index >= 0 && index < kinds.length ? kinds[index] : 0;
         }
 
         static boolean isAcross(int kind) {
@@ -396,23 +406,15 @@ public final class PunchedFolds {
         }
 
         int columns() {
-            return EDGE >> foldsOfWay(true);
+            return EDGE >> madeAcross;
         }
 
         int rows() {
-            return EDGE >> foldsOfWay(false);
+            return EDGE >> (made - madeAcross);
         }
 
         int layers() {
             return 1 << made;
-        }
-
-        int foldsOfWay(boolean across) {
-            int folds = 0;
-            for (int i = 0; i < made; i++) {
-                folds += isAcross(kindOf(i)) == across ? 1 : 0;
-            }
-            return folds;
         }
 
         boolean hasField(int column, int row) {
@@ -434,13 +436,14 @@ public final class PunchedFolds {
             int layers = layers();
             for (int latest = made - 1; latest >= 0; latest--) {
                 int kind = kindOf(latest);
+                boolean firstMoved = movesFirstHalf(kind);
                 layers = layers / 2;
                 boolean moved = i < layers;
                 if (isAcross(kind)) {
-                    c = placeAhead(c, width, kind, moved);
+                    c = placeAhead(c, width, firstMoved, moved);
                     width = 2 * width;
                 } else {
-                    r = placeAhead(r, height, kind, moved);
+                    r = placeAhead(r, height, firstMoved, moved);
                     height = 2 * height;
                 }
                 i = moved ? layers - 1 - i : i - layers;
@@ -450,8 +453,8 @@ public final class PunchedFolds {
         }
 
         /** The column or row, ahead of a fold, of what lies at a place after it; half of the places remain. */
-        static int placeAhead(int place, int half, int kind, boolean moved) {
-            int remaining = movesFirstHalf(kind) ? half + place : place;
+        static int placeAhead(int place, int half, boolean firstMoved, boolean moved) {
+            int remaining = firstMoved ? half + place : place;
             return moved ? 2 * half - 1 - remaining : remaining;
         }
 
@@ -467,13 +470,14 @@ public final class PunchedFolds {
                 int kind = kindOf(i);
                 boolean across = isAcross(kind);
                 int half = (across ? width : height) / 2;
-                boolean isInFirstHalf = (across ? column : row) < half;
-                boolean moved = isInFirstHalf == movesFirstHalf(kind);
+                boolean firstMoved = movesFirstHalf(kind);
+                boolean isInFirst = (across ? column : row) < half;
+                boolean moved = isInFirst == firstMoved;
                 if (across) {
-                    column = placeAfter(column, half, kind, moved);
+                    column = placeAfter(column, half, firstMoved, moved);
                     width = half;
                 } else {
-                    row = placeAfter(row, half, kind, moved);
+                    row = placeAfter(row, half, firstMoved, moved);
                     height = half;
                 }
                 int layers = 1 << i;
@@ -484,9 +488,9 @@ public final class PunchedFolds {
         }
 
         /** The column or row, after a fold, of what lay at a place ahead of it. */
-        static int placeAfter(int place, int half, int kind, boolean moved) {
+        static int placeAfter(int place, int half, boolean firstMoved, boolean moved) {
             int remaining = moved ? 2 * half - 1 - place : place;
-            return movesFirstHalf(kind) ? remaining - half : remaining;
+            return firstMoved ? remaining - half : remaining;
         }
 
         long uppermostCells(int column, int row, int depth) {
@@ -534,7 +538,8 @@ public final class PunchedFolds {
             if (kind < 0 || kind >= FOLD_KINDS) {
                 return BAD_VALUE;
             }
-            if (folding.foldsOfWay(Folding.isAcross(kind)) >= MOST_FOLDS_OF_A_WAY) {
+            int extent = Folding.isAcross(kind) ? folding.columns() : folding.rows();
+            if (extent < 2) {
                 return NOT_POSSIBLE;
             }
             folding.addFold(kind);
@@ -542,18 +547,12 @@ public final class PunchedFolds {
         }
 
         int takeFoldBack() {
-            int latest = folding.made - 1;
-            if (!folding.hasFold(latest)) {
-                return NOT_POSSIBLE;
-            }
-            int kind = folding.kindOf(latest);
-            folding.made = latest;
-            return kind;
+            return folding.made > 0 ? folding.takeLatestBack() : NOT_POSSIBLE;
         }
 
         int takeAllFoldsBack() {
             int folds = folding.made;
-            folding.made = 0;
+            folding.takeAllBack();
             return folds;
         }
 

@@ -26,7 +26,7 @@ final class Due {
         }
     }
 
-    /** Everything that the observers tell of the state, the fields of the folded paper too. */
+    /** A number for each part of the state, so that two states can be compared; few calls, as an object has but 512. */
     static String told(PunchedFolds x) {
         StringBuilder all = new StringBuilder();
         for (int part = 0; part < 4; part++) {
@@ -38,13 +38,24 @@ final class Due {
         for (int i = 0; i < 8; i++) {
             all.append(x.holes(i)).append(' ').append(x.target(i)).append(' ');
         }
-        for (int cell = 0; cell < 64; cell++) {
+        all.append(x.count(3));
+        for (int cell = 0; cell < 64; cell += 9) {
             all.append('/').append(x.colour(cell, 0)).append(x.colour(cell, 1));
             for (int part = 0; part < 4; part++) {
                 all.append(' ').append(x.where(cell, part));
             }
         }
         return all.toString();
+    }
+
+    /** A paper with folds, holes, ink and a target, and four recorded states. */
+    static PunchedFolds usedPaper() {
+        PunchedFolds x = new PunchedFolds();
+        x.fold(1);
+        x.punch(0, 0, 2);
+        x.ink(1, 1, 4);
+        x.aim(5, 129);
+        return x;
     }
 
     static void end() {

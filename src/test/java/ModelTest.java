@@ -29,7 +29,11 @@ public final class ModelTest {
             for (int call = 0; call < CALLS; call++) {
                 compare(run, x, model, run % 3);
             }
-            compareAll(run, x, model);
+            if (run % 2 == 0) {
+                compareAll(run, x, model);
+            } else {
+                compareRecorded(run, x, model);
+            }
         }
         Due.end();
     }
@@ -53,11 +57,11 @@ public final class ModelTest {
     }
 
     private static void change(int run, PunchedFolds x, Model m, int manner) {
-        int c = within(x.size(0));
-        int r = within(x.size(1));
+        int c = within(m.size(0));
+        int r = within(m.size(1));
         int kind = draw(8);
         if (kind < 3) {
-            int d = manner == 0 ? x.size(2) : draw(8) == 0 ? within(66) : 1 + draw(x.size(2));
+            int d = manner == 0 ? m.size(2) : draw(8) == 0 ? within(66) : 1 + draw(m.size(2));
             due(run, "punch(" + c + ", " + r + ", " + d + ")", x.punch(c, r, d), m.punch(c, r, d));
         } else if (kind < 6) {
             int i = draw(5) == 0 ? within(7) : 1 + draw(5);
@@ -68,11 +72,11 @@ public final class ModelTest {
     }
 
     private static void look(int run, PunchedFolds x, Model m) {
-        int c = within(x.size(0));
-        int r = within(x.size(1));
+        int c = within(m.size(0));
+        int r = within(m.size(1));
         int cell = within(64);
         int part = within(4);
-        int i = within(x.size(2));
+        int i = within(m.size(2));
         switch (draw(9)) {
             case 0, 1 -> due(run, "layer(" + c + ", " + r + ", " + i + ", " + part + ")",
                     x.layer(c, r, i, part), m.layer(c, r, i, part));
@@ -90,7 +94,7 @@ public final class ModelTest {
 
     private static void aimAndPredict(int run, PunchedFolds x, Model m) {
         int r = within(8);
-        int c = within(x.size(0));
+        int c = within(m.size(0));
         switch (draw(7)) {
             case 0 -> {
                 int mask = within(256);
@@ -138,12 +142,26 @@ public final class ModelTest {
         }
     }
 
-    private static void compareAll(int run, PunchedFolds x, Model m) {
+    private static void compareRows(int run, PunchedFolds x, Model m) {
         for (int i = 0; i < 8; i++) {
             due(run, "holes at the end", x.holes(i), m.holes(i));
             due(run, "target at the end", x.target(i), m.target(i));
             due(run, "foldAt at the end", x.foldAt(i), m.foldAt(i));
         }
+    }
+
+    private static void compareRecorded(int run, PunchedFolds x, Model m) {
+        int remaining = 5;
+        while (remaining >= 0) {
+            remaining = m.undo();
+            due(run, "undo() at the end", x.undo(), remaining);
+            due(run, "count(3) at the end", x.count(3), m.count(3));
+            compareRows(run, x, m);
+        }
+    }
+
+    private static void compareAll(int run, PunchedFolds x, Model m) {
+        compareRows(run, x, m);
         for (int cell = 0; cell < 64; cell++) {
             for (int part = 0; part < 4; part++) {
                 due(run, "where at the end", x.where(cell, part), m.where(cell, part));
