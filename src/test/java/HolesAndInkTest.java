@@ -16,17 +16,9 @@ public final class HolesAndInkTest {
         Due.end();
     }
 
-    private static PunchedFolds folded(int... kinds) {
-        PunchedFolds x = new PunchedFolds();
-        for (int kind : kinds) {
-            x.fold(kind);
-        }
-        return x;
-    }
-
     private static void punchLayers() {
         // The stack of the field 0, 0 after the folds 1 and 1: the cells 3, 4, 7, 0.
-        PunchedFolds x = folded(1, 1);
+        PunchedFolds x = Papers.folded(1, 1);
         Due.is("punch to a depth of 2", x.punch(0, 0, 2), 2);
         Due.is("holes", x.holes(0), 8 + 16);
         Due.is("punch to a depth of 1", x.punch(0, 0, 1), 0);
@@ -37,7 +29,7 @@ public final class HolesAndInkTest {
         Due.is("punches without a difference are recorded", x.punch(0, 0, 4), 0);
         Due.is("undo()", x.undo(), 4);
         Due.is("the holes stay", x.count(0), 4);
-        PunchedFolds y = folded(0, 0, 0, 2, 2, 2);
+        PunchedFolds y = Papers.folded(0, 0, 0, 2, 2, 2);
         Due.is("punch of 63 layers", y.punch(0, 0, 63), 63);
         Due.is("punch of 64 layers", y.punch(0, 0, 64), 1);
     }
@@ -73,7 +65,7 @@ public final class HolesAndInkTest {
     }
 
     private static void inkFalls() {
-        PunchedFolds x = folded(1);
+        PunchedFolds x = Papers.folded(1);
         Due.is("ink on the uppermost layer", x.ink(0, 0, 2), 7);
         Due.is("its back is up", x.colour(7, 1), 2);
         Due.is("its front stays", x.colour(7, 0), 0);
@@ -111,7 +103,7 @@ public final class HolesAndInkTest {
     }
 
     private static void mendUppermost() {
-        PunchedFolds x = folded(3);
+        PunchedFolds x = Papers.folded(3);
         // The stack of the field 2, 0: the back of the cell 58, the front of the cell 2.
         x.ink(2, 0, 4);
         x.punch(2, 0, 1);
@@ -133,7 +125,7 @@ public final class HolesAndInkTest {
         Due.is("undo()", x.undo(), 4);
         Due.is("the hole is there again", x.holes(7), 4);
         Due.is("the colour is there again", x.colour(58, 0), 1);
-        PunchedFolds y = folded(1);
+        PunchedFolds y = Papers.folded(1);
         y.ink(3, 3, 2);
         y.punch(3, 3, 1);
         Due.is("mend()", y.mend(3, 3), 28);

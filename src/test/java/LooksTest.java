@@ -22,12 +22,6 @@ public final class LooksTest {
         Due.end();
     }
 
-    private static void punchCells(PunchedFolds x, int... cells) {
-        for (int cell : cells) {
-            x.punch(cell % 8, cell / 8, 1);
-        }
-    }
-
     private static void layerParts() {
         PunchedFolds x = new PunchedFolds();
         x.ink(6, 2, 3);
@@ -121,7 +115,7 @@ public final class LooksTest {
 
     private static void holesOfRows() {
         PunchedFolds x = new PunchedFolds();
-        punchCells(x, 0, 7, 58, 63, 12);
+        Papers.punch(x, 0, 7, 58, 63, 12);
         int[] due = {129, 16, 0, 0, 0, 0, 0, 132};
         for (int row = 0; row < 8; row++) {
             Due.is("holes(" + row + ")", x.holes(row), due[row]);
@@ -139,7 +133,7 @@ public final class LooksTest {
         for (int what = 0; what < 6; what++) {
             Due.is("new: count(" + what + ")", x.count(what), due[what]);
         }
-        punchCells(x, 0, 63, 9);
+        Papers.punch(x, 0, 63, 9);
         x.aim(0, 3);
         x.aim(7, 128);
         x.ink(4, 4, 1);
@@ -162,14 +156,14 @@ public final class LooksTest {
     private static void countPieces() {
         PunchedFolds x = new PunchedFolds();
         // The corners hang together over an edge only: the cell 0 is cut off by the cells 1 and 8.
-        punchCells(x, 1, 8);
+        Papers.punch(x, 1, 8);
         Due.is("a corner is cut off", x.count(1), 2);
         Due.is("the largest piece", x.count(2), 61);
-        punchCells(x, 0);
+        Papers.punch(x, 0);
         Due.is("the corner is gone", x.count(1), 1);
         PunchedFolds rows = new PunchedFolds();
         for (int column = 0; column < 8; column++) {
-            punchCells(rows, 24 + column);
+            Papers.punch(rows, 24 + column);
         }
         Due.is("pieces above and below a row", rows.count(1), 2);
         Due.is("the largest of both", rows.count(2), 32);
@@ -179,21 +173,21 @@ public final class LooksTest {
         for (int row = 0; row < 8; row++) {
             for (int column = 1; column < 7; column++) {
                 if (row != 0) {
-                    punchCells(edges, 8 * row + column);
+                    Papers.punch(edges, 8 * row + column);
                 }
             }
         }
-        punchCells(edges, 3);
+        Papers.punch(edges, 3);
         Due.is("the end of a row and the beginning of the next one do not hang together", edges.count(1), 2);
         Due.is("the right one is larger", edges.count(2), 11);
         PunchedFolds way = new PunchedFolds();
-        punchCells(way, 3, 11, 19, 27, 35, 43, 51);
+        Papers.punch(way, 3, 11, 19, 27, 35, 43, 51);
         Due.is("a way that goes down and up again", way.count(1), 1);
         Due.is("all whole cells are on it", way.count(2), 57);
         PunchedFolds board = new PunchedFolds();
         for (int cell = 0; cell < 64; cell++) {
             if ((cell / 8 + cell) % 2 == 0) {
-                punchCells(board, cell);
+                Papers.punch(board, cell);
             }
         }
         Due.is("cells that only touch at corners", board.count(1), 32);
@@ -201,7 +195,7 @@ public final class LooksTest {
         snake();
         PunchedFolds last = new PunchedFolds();
         for (int cell = 0; cell < 64; cell++) {
-            punchCells(last, cell);
+            Papers.punch(last, cell);
         }
         Due.is("no pieces", last.count(1), 0);
         Due.is("no largest piece", last.count(2), 0);
@@ -213,7 +207,7 @@ public final class LooksTest {
         for (int row = 1; row < 8; row += 2) {
             for (int column = 0; column < 8; column++) {
                 if (column != (row % 4 == 1 ? 7 : 0)) {
-                    punchCells(x, 8 * row + column);
+                    Papers.punch(x, 8 * row + column);
                 }
             }
         }
@@ -247,7 +241,7 @@ public final class LooksTest {
 
     private static void symmetries(int due, int... cells) {
         PunchedFolds x = new PunchedFolds();
-        punchCells(x, cells);
+        Papers.punch(x, cells);
         Due.is("symmetries() of " + java.util.Arrays.toString(cells), x.symmetries(), due);
         x.aim(3, 4);
         x.ink(5, 5, 1);

@@ -1,7 +1,9 @@
 /** Long runs of calls with all kinds of arguments, compared with the model: promises 1 to 29. */
 public final class ModelTest {
     private static final int RUNS = 1500;
-    private static final int CALLS = 100;
+    // An object is used for at most 512 calls, the ones with which it is compared at the end among them.
+    private static final int SHORT_RUN = 96;
+    private static final int LONG_RUN = 500;
     private static final int[] WRONG = {-1, -2, 8, 9, 63, 64, 65, 100, 255, 256, Integer.MAX_VALUE, Integer.MIN_VALUE};
     private static final String SIGNS = "LRTBUPI:0123456789";
     private static final String[] WORKS = {"L", "R", "T", "B", "U", "P", "I", "P00", "P11:", "P01:2", "P10:12",
@@ -9,6 +11,7 @@ public final class ModelTest {
 
     // A fixed row of numbers that look drawn, so that each run of the test is the same.
     private static long drawn = 20261119L;
+    private static int calls = 0;
 
     private ModelTest() {
     }
@@ -24,18 +27,23 @@ public final class ModelTest {
 
     public static void main(String[] args) {
         for (int run = 0; run < RUNS; run++) {
-            PunchedFolds x = new PunchedFolds();
-            Model model = new Model();
-            for (int call = 0; call < CALLS; call++) {
-                compare(run, x, model, run % 3);
-            }
-            if (run % 2 == 0) {
-                compareAll(run, x, model);
-            } else {
-                compareRecorded(run, x, model);
-            }
+            compareOneRun(run, run % 10 == 9 ? LONG_RUN : SHORT_RUN);
         }
         Due.end();
+    }
+
+    private static void compareOneRun(int run, int length) {
+        PunchedFolds x = new PunchedFolds();
+        Model model = new Model();
+        calls = 0;
+        while (calls < length) {
+            compare(run, x, model, run % 3);
+        }
+        if (length == SHORT_RUN && run % 2 == 0) {
+            compareAll(run, x, model);
+        } else if (length == SHORT_RUN) {
+            compareRecorded(run, x, model);
+        }
     }
 
     private static void compare(int run, PunchedFolds x, Model m, int manner) {
@@ -172,6 +180,7 @@ public final class ModelTest {
     }
 
     private static void due(int run, String call, int got, int want) {
+        calls++;
         Due.is("run " + run + ": " + call, got, want);
     }
 }

@@ -19,22 +19,6 @@ public final class TargetTest {
         Due.end();
     }
 
-    private static PunchedFolds folded(int... kinds) {
-        PunchedFolds x = new PunchedFolds();
-        for (int kind : kinds) {
-            x.fold(kind);
-        }
-        return x;
-    }
-
-    private static PunchedFolds aimed(int... masks) {
-        PunchedFolds x = new PunchedFolds();
-        for (int row = 0; row < masks.length; row++) {
-            x.aim(row, masks[row]);
-        }
-        return x;
-    }
-
     private static void aimRows() {
         PunchedFolds x = new PunchedFolds();
         for (int row = 0; row < 8; row++) {
@@ -72,7 +56,7 @@ public final class TargetTest {
     }
 
     private static void aimAtThePattern() {
-        PunchedFolds x = folded(0);
+        PunchedFolds x = Papers.folded(0);
         x.aim(4, 255);
         x.punch(0, 0, 2);
         x.punch(3, 7, 1);
@@ -117,7 +101,7 @@ public final class TargetTest {
         Due.is("all cells in quarters", x.punches(), 16);
         x.aim(7, 127);
         Due.is("but one", x.punches(), PunchedFolds.NONE);
-        PunchedFolds y = folded(1, 1, 1, 2, 2, 2);
+        PunchedFolds y = Papers.folded(1, 1, 1, 2, 2, 2);
         Due.is("no target in the smallest paper", y.punches(), 0);
         for (int row = 0; row < 8; row++) {
             y.aim(row, 255);
@@ -145,20 +129,20 @@ public final class TargetTest {
 
     private static void bestFoldsOfTargets() {
         Due.is("no target", new PunchedFolds().bestFolds(), 0);
-        Due.is("a cell", aimed(0, 4).bestFolds(), 0);
-        Due.is("two cells of a row", aimed(0, 66).bestFolds(), 10);
-        Due.is("two cells of a row that do not lie on each other", aimed(0, 3).bestFolds(), 0);
-        Due.is("a row", aimed(255).bestFolds(), 30);
-        Due.is("a column", aimed(1, 1, 1, 1, 1, 1, 1, 1).bestFolds(), 3);
-        Due.is("the paper", aimed(255, 255, 255, 255, 255, 255, 255, 255).bestFolds(), 33);
-        Due.is("two cells that a fold down joins", aimed(2, 0, 0, 0, 0, 0, 0, 2).bestFolds(), 1);
-        Due.is("four cells that both folds join", aimed(66, 0, 0, 0, 0, 0, 0, 66).bestFolds(), 11);
-        Due.is("a cell that spoils the fold across", aimed(66, 0, 0, 2).bestFolds(), 0);
-        Due.is("a cell that spoils both folds", aimed(36, 0, 0, 4).bestFolds(), 0);
+        Due.is("a cell", Papers.aimed(0, 4).bestFolds(), 0);
+        Due.is("two cells of a row", Papers.aimed(0, 66).bestFolds(), 10);
+        Due.is("two cells of a row that do not lie on each other", Papers.aimed(0, 3).bestFolds(), 0);
+        Due.is("a row", Papers.aimed(255).bestFolds(), 30);
+        Due.is("a column", Papers.aimed(1, 1, 1, 1, 1, 1, 1, 1).bestFolds(), 3);
+        Due.is("the paper", Papers.aimed(255, 255, 255, 255, 255, 255, 255, 255).bestFolds(), 33);
+        Due.is("two cells that a fold down joins", Papers.aimed(2, 0, 0, 0, 0, 0, 0, 2).bestFolds(), 1);
+        Due.is("four cells that both folds join", Papers.aimed(66, 0, 0, 0, 0, 0, 0, 66).bestFolds(), 11);
+        Due.is("a cell that spoils the fold across", Papers.aimed(66, 0, 0, 2).bestFolds(), 0);
+        Due.is("a cell that spoils both folds", Papers.aimed(36, 0, 0, 4).bestFolds(), 0);
     }
 
     private static void bestFoldsDoNotAskForThePaper() {
-        PunchedFolds x = aimed(0, 0, 255);
+        PunchedFolds x = Papers.aimed(0, 0, 255);
         x.fold(2);
         x.fold(3);
         x.punch(3, 1, 2);
@@ -185,7 +169,7 @@ public final class TargetTest {
             Due.is("ifPunched(0, " + far + ")", x.ifPunched(0, far), PunchedFolds.NO_SUCH);
         }
         Due.is("a row that is folded away", x.ifPunched(0, 1), PunchedFolds.NO_SUCH);
-        PunchedFolds y = folded(0, 0, 0, 2, 2, 2);
+        PunchedFolds y = Papers.folded(0, 0, 0, 2, 2, 2);
         Due.is("the whole paper", y.ifPunched(0, 0), 0);
     }
 

@@ -20,12 +20,6 @@ public final class TextsTest {
         Due.end();
     }
 
-    private static PunchedFolds written(String text) {
-        PunchedFolds x = new PunchedFolds();
-        Due.write(x, text);
-        return x;
-    }
-
     private static void appendCharacters() {
         PunchedFolds x = new PunchedFolds();
         Due.is("append(33)", x.append(33), 1);
@@ -41,7 +35,7 @@ public final class TextsTest {
     }
 
     private static void appendErrors() {
-        PunchedFolds x = written("LR");
+        PunchedFolds x = Papers.written("LR");
         int[] codes = {32, 127, 0, -1, 255, 256 + 76, Integer.MAX_VALUE, Integer.MIN_VALUE};
         for (int code : codes) {
             Due.is("append(" + code + ")", x.append(code), PunchedFolds.BAD_VALUE);
@@ -51,7 +45,7 @@ public final class TextsTest {
     }
 
     private static void clearTexts() {
-        PunchedFolds x = written("LRx");
+        PunchedFolds x = Papers.written("LRx");
         Due.is("clearText()", x.clearText(), 3);
         Due.is("clearText()", x.clearText(), 0);
         Due.is("the buffer is empty", x.errorPosition(), 0);
@@ -60,7 +54,7 @@ public final class TextsTest {
     }
 
     private static void bufferIsNotInTheState() {
-        PunchedFolds x = written("LR");
+        PunchedFolds x = Papers.written("LR");
         Due.is("append() is not recorded", x.undo(), PunchedFolds.NOT_POSSIBLE);
         x.save();
         x.fold(0);
@@ -76,12 +70,12 @@ public final class TextsTest {
         String[] texts = {"L", "R", "T", "B", "U", "P00", "P77", "P00:1", "P00:9", "P00:10", "P00:59", "P00:60",
             "P00:64", "P00:7L", "P00:64U", "P00P00", "P00:5I001", "I001", "I775", "LRTBU", "I123P45:6U", "UUUU"};
         for (String text : texts) {
-            Due.is("errorPosition() of " + text, written(text).errorPosition(), PunchedFolds.NONE);
+            Due.is("errorPosition() of " + text, Papers.written(text).errorPosition(), PunchedFolds.NONE);
         }
     }
 
     private static void error(String text, int due) {
-        PunchedFolds x = written(text);
+        PunchedFolds x = Papers.written(text);
         Due.is("errorPosition() of " + text, x.errorPosition(), due);
         Due.is("work() of " + text, x.work(), PunchedFolds.BAD_TEXT);
         Due.is("the buffer stays with " + text, x.clearText(), text.length());
@@ -134,16 +128,16 @@ public final class TextsTest {
 
     private static void textsOfSixtyCharacters() {
         String folds = "LULULULULULULULULULULULULULULULULULULULULULULULULULULULULU";
-        Due.is("60 folds and unfolds", written(folds + "LU").errorPosition(), PunchedFolds.NONE);
-        Due.is("60 works", written(folds + "LU").work(), 60);
-        Due.is("an error at the last place", written(folds + "Lx").errorPosition(), 59);
-        Due.is("a work that is cut off", written(folds + "P0").errorPosition(), 60);
-        Due.is("a work at the end", written(folds.substring(1) + "P00").errorPosition(), PunchedFolds.NONE);
-        Due.is("a number at the end", written(folds.substring(4) + "P00:64").errorPosition(), PunchedFolds.NONE);
+        Due.is("60 folds and unfolds", Papers.written(folds + "LU").errorPosition(), PunchedFolds.NONE);
+        Due.is("60 works", Papers.written(folds + "LU").work(), 60);
+        Due.is("an error at the last place", Papers.written(folds + "Lx").errorPosition(), 59);
+        Due.is("a work that is cut off", Papers.written(folds + "P0").errorPosition(), 60);
+        Due.is("a work at the end", Papers.written(folds.substring(1) + "P00").errorPosition(), PunchedFolds.NONE);
+        Due.is("a number at the end", Papers.written(folds.substring(4) + "P00:64").errorPosition(), PunchedFolds.NONE);
     }
 
     private static void worksAreDone() {
-        PunchedFolds x = written("LRTB");
+        PunchedFolds x = Papers.written("LRTB");
         Due.is("work()", x.work(), 4);
         for (int i = 0; i < 4; i++) {
             Due.is("foldAt(" + i + ")", x.foldAt(i), i);
@@ -151,17 +145,17 @@ public final class TextsTest {
         Due.is("the buffer is empty", x.clearText(), 0);
         Due.write(x, "UI115P10:9I114");
         Due.is("a depth that is too large after an unfold", x.work(), 2);
-        PunchedFolds y = written("RP30P01:1I014I301U");
+        PunchedFolds y = Papers.written("RP30P01:1I014I301U");
         Due.is("work()", y.work(), 6);
         Due.is("a hole in the upper layer", y.holes(1), 128);
         Due.is("holes in all layers", y.holes(0), 24);
         Due.is("the ink falls through the hole", y.colour(8, 0), 4);
         Due.is("ink that no cell gets is a work done", y.count(3), 1);
         Due.is("the paper is open", y.size(3), 0);
-        PunchedFolds z = written("P12P12U");
+        PunchedFolds z = Papers.written("P12P12U");
         Due.is("a punch that makes no hole is done", z.work(), 2);
         Due.is("the column comes first", z.holes(2), 2);
-        PunchedFolds ink = written("I345");
+        PunchedFolds ink = Papers.written("I345");
         ink.work();
         Due.is("the column comes first", ink.colour(35, 0), 5);
     }
@@ -174,7 +168,7 @@ public final class TextsTest {
         stops("P00:2L", 0);
         stops("LP00:2LP00:5R", 3);
         stops("BP04T", 1);
-        PunchedFolds x = written("P00P11P77:2P22");
+        PunchedFolds x = Papers.written("P00P11P77:2P22");
         Due.is("work()", x.work(), 2);
         Due.is("the works ahead of the error are done", x.count(0), 2);
         Due.is("the works after it are not", x.holes(2), 0);
@@ -182,7 +176,7 @@ public final class TextsTest {
     }
 
     private static void stops(String text, int due) {
-        PunchedFolds x = written(text);
+        PunchedFolds x = Papers.written(text);
         Due.is("work() of " + text, x.work(), due);
         Due.is("the buffer is empty after " + text, x.clearText(), 0);
         Due.is("one state is recorded by " + text, x.undo(), 0);
@@ -190,7 +184,7 @@ public final class TextsTest {
     }
 
     private static void depthsOfWorks() {
-        PunchedFolds x = written("LTP00P10:1P20:3P30:4");
+        PunchedFolds x = Papers.written("LTP00P10:1P20:3P30:4");
         Due.is("work()", x.work(), 6);
         int[] due = {4, 1, 3, 4};
         for (int column = 0; column < 4; column++) {
@@ -200,10 +194,10 @@ public final class TextsTest {
             }
             Due.is("holes in the column " + column, holes, due[column]);
         }
-        PunchedFolds all = written("LLLTTTP00:63UP01:32");
+        PunchedFolds all = Papers.written("LLLTTTP00:63UP01:32");
         Due.is("work()", all.work(), 9);
         Due.is("holes of a depth with two digits", all.count(0), 64);
-        PunchedFolds some = written("RRRBBBP00:64");
+        PunchedFolds some = Papers.written("RRRBBBP00:64");
         some.work();
         Due.is("holes of the depth 64", some.count(0), 64);
     }
