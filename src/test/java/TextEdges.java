@@ -123,6 +123,10 @@ final class TextEdges {
         error("P00/", 3);
         error("P00:64:", 6);
         error("I0015", 4);
+        error("P00:1/", 5);
+        error("P00:1:", 5);
+        error("P00:9/", 5);
+        error("P00:12/", 6);
     }
 
     private static void eachWork() {
